@@ -13,6 +13,7 @@ public final class CaveTest {
         faultsOfNumbers();
         faultsOfTooMany();
         faultsOfAgain();
+        whatStoodBehindTheText();
         telling();
         tellingParts();
         tellingPersons();
@@ -225,6 +226,22 @@ public final class CaveTest {
         fault("part 1 1;part 1 1;way 0 1;way 0 1;", 4, 32);
         fault("part 1 1;part 1 1;way 0 1;way 1 00;", 4, 32);
         Check.due("all mouths", Check.caveOf(PARTS_7 + "mouth 6;mouth 5;mouth 4;mouth 3;mouth 2;mouth 1;mouth 0;").told(1), 127);
+    }
+
+    /** A text is read up to its own end, whatever a longer one had there before. */
+    private static void whatStoodBehindTheText() {
+        String text = "part 1 1;part  2 001 ;mouth 1;way 0 1;person 10 100;interest 5;winter 9 9;";
+        for (int length = 0; length <= text.length(); length++) {
+            CaveYears fresh = new CaveYears();
+            Check.feed(fresh, text.substring(0, length));
+            int parts = fresh.cave();
+            CaveYears used = Check.caveOf(text);
+            Check.feed(used, text.substring(0, length));
+            Check.due("cave() of " + length + " bytes again", used.cave(), parts);
+            Check.due("fault() of " + length + " bytes again", used.fault(), fresh.fault());
+            boolean whole = length == 0 || text.substring(0, length).trim().endsWith(";");
+            Check.due(length + " bytes are good", parts >= 0 ? 1 : 0, whole ? 1 : 0);
+        }
     }
 
     private static void telling() {

@@ -130,6 +130,10 @@ public final class StaysTest {
             y.pass(9999);
         }
         Check.due("pass to 9990000", y.pass(999), 9990000);
+        y.keep(0);
+        y.pass(1);
+        Check.due("drift(1) at 9990001", y.drift(1), FULL);
+        y.goBack(0);
         Check.due("drift(99) at 9990000 does not answer FULL", y.drift(99) > 9990000 ? 1 : 0, 1);
         Check.due("drift(1) above it", y.drift(1), FULL);
     }
