@@ -124,92 +124,85 @@ public final class CaveTest {
         Check.due("sum", x.person(0, 1), 999);
     }
 
-    private static void fault(String text, int kind, int place) {
-        CaveYears x = new CaveYears();
-        Check.feed(x, text);
-        Check.due("cave() of '" + text + "'", x.cave(), -10 - kind);
-        Check.due("fault() of '" + text + "'", x.fault(), place);
-    }
-
     private static void faultsOfPlace() {
-        fault("tea 1;", 1, 0);
-        fault(" par", 1, 1);
-        fault("partx 1 1;", 1, 0);
-        fault("part", 1, 4);
-        fault("part  ", 1, 6);
-        fault("part 1", 1, 6);
-        fault("part 1 1", 1, 8);
-        fault("part 1 1 ", 1, 9);
-        fault("part 1 1;;", 1, 9);
-        fault(";", 1, 0);
-        fault("5 part 1 1;", 1, 0);
-        fault("part;", 1, 4);
-        fault("part 1;", 1, 6);
-        fault("part 1 1 1;", 1, 9);
-        fault("part 1 a;", 1, 7);
-        fault("part 1 1 abc;", 1, 9);
-        fault("part 1a 1;", 1, 6);
-        fault("part part 1 1;", 1, 5);
-        fault("partpart 1 1;", 1, 0);
-        fault("pa rt 1 1;", 1, 0);
-        fault("Part 1 1;", 1, 0);
-        fault("parT 1 1;", 1, 0);
-        fault("partT 1 1;", 1, 4);
-        fault("part\t1 1;", 1, 4);
-        fault("part 1\n1;", 1, 6);
-        fault("part 1,1;", 1, 6);
-        fault("part -1 1;", 1, 5);
-        fault("part 1 1;\u00e9", 1, 9);
-        fault("part 1 1;mouth 0 0;", 1, 17);
-        fault("interest 1 1;", 1, 11);
-        fault("part 1 1;way 0;", 1, 14);
-        fault("way;", 1, 3);
-        fault("person 1;", 1, 8);
-        fault("winter 1;", 1, 8);
-        fault("\0", 1, 0);
+        Check.fault("tea 1;", 1, 0);
+        Check.fault(" par", 1, 1);
+        Check.fault("partx 1 1;", 1, 0);
+        Check.fault("part", 1, 4);
+        Check.fault("part  ", 1, 6);
+        Check.fault("part 1", 1, 6);
+        Check.fault("part 1 1", 1, 8);
+        Check.fault("part 1 1 ", 1, 9);
+        Check.fault("part 1 1;;", 1, 9);
+        Check.fault(";", 1, 0);
+        Check.fault("5 part 1 1;", 1, 0);
+        Check.fault("part;", 1, 4);
+        Check.fault("part 1;", 1, 6);
+        Check.fault("part 1 1 1;", 1, 9);
+        Check.fault("part 1 a;", 1, 7);
+        Check.fault("part 1 1 abc;", 1, 9);
+        Check.fault("part 1a 1;", 1, 6);
+        Check.fault("part part 1 1;", 1, 5);
+        Check.fault("partpart 1 1;", 1, 0);
+        Check.fault("pa rt 1 1;", 1, 0);
+        Check.fault("Part 1 1;", 1, 0);
+        Check.fault("parT 1 1;", 1, 0);
+        Check.fault("partT 1 1;", 1, 4);
+        Check.fault("part\t1 1;", 1, 4);
+        Check.fault("part 1\n1;", 1, 6);
+        Check.fault("part 1,1;", 1, 6);
+        Check.fault("part -1 1;", 1, 5);
+        Check.fault("part 1 1;\u00e9", 1, 9);
+        Check.fault("part 1 1;mouth 0 0;", 1, 17);
+        Check.fault("interest 1 1;", 1, 11);
+        Check.fault("part 1 1;way 0;", 1, 14);
+        Check.fault("way;", 1, 3);
+        Check.fault("person 1;", 1, 8);
+        Check.fault("winter 1;", 1, 8);
+        Check.fault("\0", 1, 0);
     }
 
     private static void faultsOfNumbers() {
-        fault("part 0 1;", 2, 5);
-        fault("part 10 1;", 2, 5);
-        fault("part 1 0;", 2, 7);
-        fault("part 1 7;", 2, 7);
-        fault("part 0001 1;", 2, 5);
-        fault("part 99999999999999999999 1;", 2, 5);
-        fault("part 4294967297 1;", 2, 5);
-        fault("part 0", 2, 5);
-        fault("part 0x", 2, 5);
-        fault("mouth 0;", 2, 6);
-        fault("part 1 1;mouth 1;", 2, 15);
-        fault("part 1 1;mouth  999;", 2, 16);
-        fault("part 1 1;mouth 0000;", 2, 15);
-        fault("way 0 0;", 2, 4);
-        fault("part 1 1;way 1 0;", 2, 13);
-        fault("part 1 1;way 0 1;", 2, 15);
-        fault("part 1 1;way 0 1;part 1 1;", 2, 15);
-        fault("person 100 1;", 2, 7);
-        fault("person 99 1000;", 2, 10);
-        fault("interest 51;", 2, 9);
-        fault("winter 91 1;", 2, 7);
-        fault("winter 90 0;", 2, 10);
-        fault("winter 90 10;", 2, 10);
+        Check.fault("part 0 1;", 2, 5);
+        Check.fault("part 10 1;", 2, 5);
+        Check.fault("part 1 0;", 2, 7);
+        Check.fault("part 1 7;", 2, 7);
+        Check.fault("part 0001 1;", 2, 5);
+        Check.fault("part 99999999999999999999 1;", 2, 5);
+        Check.fault("part 4294967297 1;", 2, 5);
+        Check.fault("part 0", 2, 5);
+        Check.fault("part 0x", 2, 5);
+        Check.fault("mouth 0;", 2, 6);
+        Check.fault("part 1 1;mouth 1;", 2, 15);
+        Check.fault("part 1 1;mouth  999;", 2, 16);
+        Check.fault("part 1 1;mouth 0000;", 2, 15);
+        Check.fault("way 0 0;", 2, 4);
+        Check.fault("part 1 1;way 1 0;", 2, 13);
+        Check.fault("part 1 1;way 0 1;", 2, 15);
+        Check.fault("part 1 1;way 0 1;part 1 1;", 2, 15);
+        Check.fault("person 100 1;", 2, 7);
+        Check.fault("person 99 1000;", 2, 10);
+        Check.fault("interest 51;", 2, 9);
+        Check.fault("winter 91 1;", 2, 7);
+        Check.fault("winter 90 0;", 2, 10);
+        Check.fault("winter 90 10;", 2, 10);
     }
 
     private static void faultsOfTooMany() {
-        fault(PARTS_7 + "part 1 1;", 3, 63);
-        fault(PARTS_7 + " part", 3, 64);
-        fault(PARTS_7 + "partx", 1, 63);
+        Check.fault(PARTS_7 + "part 1 1;", 3, 63);
+        Check.fault(PARTS_7 + " part", 3, 64);
+        Check.fault(PARTS_7 + "partx", 1, 63);
         String ways = "way 0 1;way 0 2;way 0 3;way 0 4;way 0 5;way 0 6;way 1 2;way 1 3;way 1 4;way 1 5;way 1 6;way 2 3;";
         Check.due("twelve ways", Check.caveOf(PARTS_7 + ways).told(0), 7);
-        fault(PARTS_7 + ways + "way 0 0;", 3, 63 + 96);
-        fault(PARTS_7 + ways + "way 2 4;", 3, 63 + 96);
+        Check.fault(PARTS_7 + ways + "way 0 0;", 3, 63 + 96);
+        Check.fault(PARTS_7 + ways + "way 2 4;", 3, 63 + 96);
         String persons = "person 1 1;person 1 1;person 1 1;person 1 1;person 1 1;person 1 1;";
         Check.due("six persons", Check.caveOf(persons).told(2), 6);
-        fault(persons + "person 1 1;", 3, 66);
-        fault("interest 0;interest 0;", 3, 11);
+        Check.fault(persons + "person 1 1;", 3, 66);
+        Check.fault("interest 0;interest 0;", 3, 11);
         String winters = "winter 1 1;winter 1 1;winter 1 1;winter 1 1;winter 1 1;";
         Check.due("five winters", Check.caveOf(winters).told(4), 5);
-        fault(winters + "winter 1 1;", 3, 55);
+        Check.fault(winters + "winter 1 1;", 3, 55);
         // What a faulty text told is not counted in the next one.
         CaveYears x = new CaveYears();
         Check.feed(x, PARTS_7 + "interest 3;mouth 1;part");
@@ -220,11 +213,11 @@ public final class CaveTest {
     }
 
     private static void faultsOfAgain() {
-        fault("part 1 1;mouth 0;mouth 0;", 4, 23);
-        fault("part 1 1;mouth 0;mouth 0x", 4, 23);
-        fault("part 1 1;way 0 0;", 4, 15);
-        fault("part 1 1;part 1 1;way 0 1;way 0 1;", 4, 32);
-        fault("part 1 1;part 1 1;way 0 1;way 1 00;", 4, 32);
+        Check.fault("part 1 1;mouth 0;mouth 0;", 4, 23);
+        Check.fault("part 1 1;mouth 0;mouth 0x", 4, 23);
+        Check.fault("part 1 1;way 0 0;", 4, 15);
+        Check.fault("part 1 1;part 1 1;way 0 1;way 0 1;", 4, 32);
+        Check.fault("part 1 1;part 1 1;way 0 1;way 1 00;", 4, 32);
         Check.due("all mouths", Check.caveOf(PARTS_7 + "mouth 6;mouth 5;mouth 4;mouth 3;mouth 2;mouth 1;mouth 0;").told(1), 127);
     }
 

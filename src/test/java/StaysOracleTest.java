@@ -103,13 +103,21 @@ public final class StaysOracleTest {
             rows = nextDay(c, rows, 1501);
         }
         for (int k = 0; k < exactTimes.length; k++) {
-            for (int to = 0; to < c.parts; to++) {
-                justIs(c, x, from, to, exactTimes[k], false, first[k][to]);
-            }
+            justAll(c, from, exactTimes[k], false, first[k]);
         }
-        atLeast(c, x, from, random.nextInt(6001));
-        atLeast(c, x, from, random.nextInt(600));
+        int[] times = {random.nextInt(6001), random.nextInt(600)};
+        for (int t : times) {
+            justAll(c, from, t, true, firstAtLeast(c, from, t));
+        }
         sitOut(c, x, from, random);
+    }
+
+    /** On an object of its own, for one object's 512 calls do not do for all times. */
+    private static void justAll(RandomCave c, int from, int t, boolean atLeast, String[] first) {
+        CaveYears x = Check.caveOf(c.text);
+        for (int to = 0; to < c.parts; to++) {
+            justIs(c, x, from, to, t, atLeast, first[to]);
+        }
     }
 
     private static String[] firstAtLeast(RandomCave c, int from, int t) {
@@ -124,13 +132,6 @@ public final class StaysOracleTest {
             rows = nextDay(c, rows, t);
         }
         return first;
-    }
-
-    private static void atLeast(RandomCave c, CaveYears x, int from, int t) {
-        String[] first = firstAtLeast(c, from, t);
-        for (int to = 0; to < c.parts; to++) {
-            justIs(c, x, from, to, t, true, first[to]);
-        }
     }
 
     private static void sitOut(RandomCave c, CaveYears x, int from, Random random) {

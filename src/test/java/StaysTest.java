@@ -10,7 +10,6 @@ public final class StaysTest {
         judging();
         entering();
         passing();
-        theLastDates();
         sumsByYears();
         drifting();
         driftingByHand();
@@ -108,34 +107,6 @@ public final class StaysTest {
         Check.due("age", x.person(0, 0), 1200 + 10000);
         CaveYears empty = new CaveYears();
         Check.due("pass with no persons", empty.pass(3), 3);
-    }
-
-    /** No 512 calls reach these dates, so the document leaves them free; the bounds are kept all the same. */
-    private static void theLastDates() {
-        CaveYears x = Check.caveOf("part 1 1;person 0 1;");
-        for (int k = 0; k < 1000; k++) {
-            x.pass(9999);
-        }
-        Check.due("date", x.told(6), 9999000);
-        Check.due("drift beyond 9990000", x.drift(1), FULL);
-        Check.due("drift(0) beyond 9990000", x.drift(0), OUTSIDE);
-        Check.due("pass(1000)", x.pass(1000), FULL);
-        Check.due("pass(9999)", x.pass(9999), FULL);
-        Check.due("pass(10000)", x.pass(10000), OUTSIDE);
-        Check.due("date", x.told(6), 9999000);
-        Check.due("pass(999)", x.pass(999), 9999999);
-        Check.due("pass(1)", x.pass(1), FULL);
-        CaveYears y = Check.caveOf("part 1 1;person 0 1;");
-        for (int k = 0; k < 999; k++) {
-            y.pass(9999);
-        }
-        Check.due("pass to 9990000", y.pass(999), 9990000);
-        y.keep(0);
-        y.pass(1);
-        Check.due("drift(1) at 9990001", y.drift(1), FULL);
-        y.goBack(0);
-        Check.due("drift(99) at 9990000 does not answer FULL", y.drift(99) > 9990000 ? 1 : 0, 1);
-        Check.due("drift(1) above it", y.drift(1), FULL);
     }
 
     private static void sumsByYears() {

@@ -7,33 +7,46 @@ public final class SturdyTest {
 
     public static void main(String[] args) {
         Random random = new Random(5);
-        for (int k = 0; k < 150; k++) {
-            CaveYears x = new CaveYears();
-            for (int call = 0; call < 512; call++) {
-                if (call % 170 == 20) {
-                    x.cave();
-                    Check.feed(x, new RandomCave(random, 7).text);
-                    x.cave();
-                }
-                String was = Check.stateOf(x);
-                String what = "";
-                int answer;
-                int c = random.nextInt(27);
-                int a = number(random);
-                int b = number(random);
-                try {
-                    answer = call(x, c, a, b, random);
-                } catch (RuntimeException e) {
-                    answer = 0;
-                    what = e.toString();
-                }
-                Check.same("call " + c + "(" + a + ", " + b + ") throws nothing", what, "");
-                if (answer <= -1000000001) {
-                    Check.same("call " + c + "(" + a + ", " + b + ") that is refused", Check.stateOf(x), was);
-                }
-            }
+        for (int k = 0; k < 700; k++) {
+            goThrough(random);
         }
         Check.finish();
+    }
+
+    /** A second object gets the same calls, but for those that are refused: in the end both are alike, within 512 calls. */
+    private static void goThrough(Random random) {
+        CaveYears asked = new CaveYears();
+        CaveYears plain = new CaveYears();
+        for (int call = 0; call < 150; call++) {
+            if (call == 10 || call == 130 && random.nextInt(8) == 0) {
+                String text = new RandomCave(random, 7).text;
+                tell(asked, text);
+                tell(plain, text);
+            }
+            int c = random.nextInt(27);
+            int a = number(random);
+            int b = number(random);
+            long draws = random.nextLong();
+            String what = "call " + c + "(" + a + ", " + b + ")";
+            int answer = 0;
+            String thrown = "";
+            try {
+                answer = call(asked, c, a, b, new Random(draws));
+                if (answer > -1000000001) {
+                    Check.due(what + " of the other one", call(plain, c, a, b, new Random(draws)), answer);
+                }
+            } catch (RuntimeException e) {
+                thrown = e.toString();
+            }
+            Check.same(what + " throws nothing", thrown, "");
+        }
+        Check.same("refusals changed nothing", Check.allOf(asked), Check.allOf(plain));
+    }
+
+    private static void tell(CaveYears x, String text) {
+        x.cave();
+        Check.feed(x, text);
+        Check.due("cave() of " + text, x.cave() > 0 ? 1 : 0, 1);
     }
 
     private static int number(Random random) {

@@ -46,7 +46,7 @@ public final class WorldOracleTest {
 
     public static void main(String[] args) {
         Random random = new Random(2);
-        for (int k = 0; k < 120; k++) {
+        for (int k = 0; k < 600; k++) {
             goThrough(new RandomCave(random, 7), random);
         }
         Check.finish();
@@ -56,7 +56,8 @@ public final class WorldOracleTest {
         CaveYears x = Check.caveOf(c.text);
         World w = new World(c);
         World[] images = new World[2];
-        for (int step = 0; step < 60; step++) {
+        // An object answers as the document has it for 512 calls: twelve steps take less.
+        for (int step = 0; step < 12; step++) {
             int q = random.nextInt(c.persons);
             switch (random.nextInt(6)) {
                 case 0:
