@@ -19,6 +19,7 @@ public final class LanguageTest {
     public static void main(String[] args) throws Exception {
         theSource(Files.readString(Path.of("src/main/java/CaveYears.java")));
         theFace();
+        theSizes();
         Check.finish();
     }
 
@@ -40,6 +41,31 @@ public final class LanguageTest {
                 boolean atStart = line.contains("final ") || line.matches("            [A-Za-z]+ = new .*|        [A-Za-z]+ = new .*");
                 Check.due("made in a call: " + line.trim(), atStart ? 1 : 0, 1);
             }
+        }
+    }
+
+    /** Rule 11: some twelve classes, some twenty fields in each beside its constants, seven parameters. */
+    private static void theSizes() {
+        Class<?>[] inside = CaveYears.class.getDeclaredClasses();
+        Check.due("classes", inside.length <= 11 ? 1 : 0, 1);
+        sizesOf(CaveYears.class);
+        for (Class<?> one : inside) {
+            sizesOf(one);
+        }
+    }
+
+    private static void sizesOf(Class<?> one) {
+        int fields = 0;
+        for (Field f : one.getDeclaredFields()) {
+            if (!Modifier.isStatic(f.getModifiers())) {
+                fields++;
+                continue;
+            }
+            Check.due("final: " + f.getName(), Modifier.isFinal(f.getModifiers()) ? 1 : 0, 1);
+        }
+        Check.due("fields of " + one.getName() + " are twenty at most", fields <= 20 ? 1 : 0, 1);
+        for (Method m : one.getDeclaredMethods()) {
+            Check.due("parameters of " + m.getName() + " are seven at most", m.getParameterCount() <= 7 ? 1 : 0, 1);
         }
     }
 

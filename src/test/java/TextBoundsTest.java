@@ -16,6 +16,7 @@ public final class TextBoundsTest {
         tenLessTheNumberOfItsFault();
         allElseIsAsItWas();
         whatACaveEnds();
+        eachTextBeginsAnew();
         thePlaceOfTheFault();
         partsAndTheirNumbers();
         mouths();
@@ -96,6 +97,9 @@ public final class TextBoundsTest {
         Check.fault(whole.substring(0, 499), 1, 499);
         Check.fault(whole.substring(0, 499) + ' ', 1, 500);
         Check.fault(whole.substring(0, 499) + 'x', 1, 499);
+        Check.fault(" ".repeat(496) + "part", 1, 500);
+        Check.fault(" ".repeat(499) + "p", 1, 499);
+        Check.fault(" ".repeat(494) + "part 0", 2, 499);
     }
 
     /** "REFUSALS, of several the first in this order": feed(). */
@@ -197,6 +201,32 @@ public final class TextBoundsTest {
         Check.due("THE SEED stays", x.seed(0), 1234567);
     }
 
+    /** "7 PARTS at most", "once" and their like are counted in one text: whatever an earlier one told, good or faulty. */
+    private static void eachTextBeginsAnew() {
+        String most = PARTS_7 + States.MOUTHS_7 + States.WAYS_12 + States.PERSONS_6 + "interest 50;" + States.WINTERS_5;
+        for (String end : new String[] {"", "x"}) {
+            CaveYears x = new CaveYears();
+            for (int k = 0; k < 4; k++) {
+                Check.feed(x, most + end);
+                Check.due("cave() of the most, " + k, x.cave(), end.isEmpty() ? 7 : -11);
+            }
+            Check.feed(x, most);
+            Check.due("once more", x.cave(), 7);
+            for (int k = 0; k < 4; k++) {
+                Check.feed(x, "part 1 1;part 1 1;part 1 1;mouth 2;way 2 1;person 1 1;winter 1 1;");
+                Check.due("cave() of less, " + k, x.cave(), 3);
+                int[] due = {3, 4, 1, 0, 1};
+                for (int what = 0; what < due.length; what++) {
+                    Check.due("told(" + what + ")", x.told(what), due[what]);
+                }
+                int[] near = {0, 4, 2};
+                for (int p = 0; p < 3; p++) {
+                    Check.due("ways from " + p, x.part(p, 1), near[p]);
+                }
+            }
+        }
+    }
+
     /** "The place (from 0 on) of the byte that has the FAULT of the latest cave(); NONE." */
     private static void thePlaceOfTheFault() {
         CaveYears x = new CaveYears();
@@ -265,6 +295,13 @@ public final class TextBoundsTest {
         Check.due("from P to Q", x.part(2, 1), 1);
         Check.due("from Q to P", x.part(0, 1), 4);
         Check.due("none from 1", x.part(1, 1), 0);
+        int[] near = {126, 125, 11, 7, 3, 3, 3};
+        CaveYears y = Check.caveOf(PARTS_7 + States.WAYS_12);
+        CaveYears z = Check.caveOf(PARTS_7 + States.WAYS_12.replaceAll("way (.) (.);", "way $2 $1;"));
+        for (int p = 0; p < 7; p++) {
+            Check.due("ways from " + p, y.part(p, 1), near[p]);
+            Check.due("ways from " + p + ", told turned round", z.part(p, 1), near[p]);
+        }
     }
 
     /** "6 PERSONS at most: AGE of A YEARS, 0 .. 99; SUM C, 0 .. 999"; "a seventh 'person'". */
@@ -353,6 +390,9 @@ public final class TextBoundsTest {
             Check.fault(" s" + word + " 1 1;", 1, 1);
             Check.fault("part 1 1 " + word + ";", 1, 9);
             Check.fault("part " + word + " 1;", 1, 5);
+            for (int k = 0; k < word.length(); k++) {
+                Check.fault(" " + word.substring(0, k) + "q" + word.substring(k + 1) + " 1 1;", 1, 1);
+            }
         }
         Check.fault("part 1 1;abc", 1, 9);
         Check.fault("part 1 abc", 1, 7);
@@ -409,11 +449,18 @@ public final class TextBoundsTest {
         String ahead = "part 1 1;part 1 1;";
         for (String clause : clauses) {
             int word = clause.indexOf(' ');
+            CaveYears used = new CaveYears();
             for (int length = 1; length < clause.length(); length++) {
                 String cut = ahead + clause.substring(0, length);
-                boolean inWord = length < word;
-                Check.fault(cut, 1, inWord ? ahead.length() : cut.length());
-                Check.fault(cut + "   ", 1, inWord ? ahead.length() : cut.length() + 3);
+                int place = length < word ? ahead.length() : cut.length();
+                Check.fault(cut, 1, place);
+                Check.fault(cut + "   ", 1, length < word ? place : place + 3);
+                // What stood behind it in an earlier text is not read on.
+                Check.feed(used, ahead + clause);
+                used.cave();
+                Check.feed(used, cut);
+                Check.due("cave() of '" + cut + "' behind the whole", used.cave(), -11);
+                Check.due("fault() of '" + cut + "' behind the whole", used.fault(), place);
             }
             Check.good(ahead + clause, clause.startsWith("part") ? 3 : 2);
         }

@@ -14,6 +14,7 @@ public final class TriedBoundsTest {
         justToTheSameOrAnother();
         justDayByDay();
         justTheFewestThenTheFirst();
+        justByWaysAlone();
         atLeastReachesItJust();
         spanOfDays();
         spanNone();
@@ -99,6 +100,9 @@ public final class TriedBoundsTest {
         }
         Check.due("a TICK less", x.just(0, 6, all - 1, false, -1), -1);
         Check.due("0 at least: no STAY is shorter than its way", x.just(0, 6, 0, true, -1), 7);
+        for (int i = 0; i < 7; i++) {
+            Check.due("0 at least, DAY " + i, x.just(0, 6, 0, true, i), i);
+        }
         CaveYears apart = Check.caveOf("part 1 1;part 1 1;mouth 0;mouth 1;");
         Check.due("no way to another one", apart.just(0, 1, 120, false, -1), -1);
         Check.due("no way at least", apart.just(0, 1, 0, true, -1), -1);
@@ -137,6 +141,15 @@ public final class TriedBoundsTest {
         due(x, true, 301, 1, 2, 1, 1, 2);
         due(x, true, 300, 1, 2, 1, 0, 2);
         due(x, false, 300, 1, 2, 1, 0, 2);
+    }
+
+    /** "each DAY is in the PART of the DAY ahead, or in one to which there is a WAY from it": a lesser PART is no nearer. */
+    private static void justByWaysAlone() {
+        CaveYears x = Check.caveOf("part 1 1;part 1 1;part 1 1;part 1 1;mouth 3;way 0 1;way 1 2;way 2 3;");
+        due(x, false, 240, 3, 3, 3, 2, 2, 3);
+        due(x, true, 240, 3, 3, 3, 2, 2, 3);
+        due(x, false, 300, 3, 3, 3, 2, 1, 2, 3);
+        due(x, true, 241, 3, 3, 3, 2, 1, 2, 3);
     }
 
     /** The STAY that just() names, DAY by DAY. */

@@ -409,14 +409,27 @@ public final class WorldBoundsTest {
         }
     }
 
+    private static CaveYears driftless(String text) {
+        CaveYears x = Check.caveOf(text);
+        x.pass(3);
+        x.keep(0);
+        x.seed(55);
+        x.pass(4);
+        x.tryOut(1, 60);
+        x.line(1, 1);
+        x.spend(0);
+        return x;
+    }
+
     /** drift(): "NOT: no PARTS, no PERSONS", with OUTSIDE the first of both. */
     private static void driftRefused() {
         String[] texts = {"", "part 1 1;mouth 0;", "person 1 1;"};
         for (String text : texts) {
-            Check.refused("drift(1) of '" + text + "'", () -> Check.caveOf(text), x -> x.drift(1), NOT);
-            Check.refused("drift(99) of '" + text + "'", () -> Check.caveOf(text), x -> x.drift(99), NOT);
-            Check.refused("OUTSIDE ahead of NOT: drift(0)", () -> Check.caveOf(text), x -> x.drift(0), OUTSIDE);
-            Check.refused("OUTSIDE ahead of NOT: drift(100)", () -> Check.caveOf(text), x -> x.drift(100), OUTSIDE);
+            Check.Maker maker = () -> driftless(text);
+            Check.refused("drift(1) of '" + text + "'", maker, x -> x.drift(1), NOT);
+            Check.refused("drift(99) of '" + text + "'", maker, x -> x.drift(99), NOT);
+            Check.refused("OUTSIDE ahead of NOT: drift(0)", maker, x -> x.drift(0), OUTSIDE);
+            Check.refused("OUTSIDE ahead of NOT: drift(100)", maker, x -> x.drift(100), OUTSIDE);
         }
         Check.due("one PART, one PERSON", Check.caveOf("part 1 1;person 1 1;").drift(1) >= 0 ? 1 : 0, 1);
     }
