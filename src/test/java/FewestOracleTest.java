@@ -14,7 +14,7 @@ public final class FewestOracleTest {
         Check.finish();
     }
 
-    private static boolean canBeOne(int[] a, int[] b) {
+    static boolean canBeOne(int[] a, int[] b) {
         int[] early = a[0] <= b[0] ? a : b;
         int[] late = a[0] <= b[0] ? b : a;
         if (early[0] == late[0]) {
@@ -25,13 +25,12 @@ public final class FewestOracleTest {
 
     private static void compare(int count, int dates, int ages, Random random) {
         CaveYears x = new CaveYears();
-        lines = new int[count][];
+        int[][] told = new int[count][];
         for (int i = 0; i < count; i++) {
-            lines[i] = new int[] {random.nextInt(dates), random.nextInt(ages)};
-            Check.due("line", x.line(lines[i][0], lines[i][1]), i + 1);
+            told[i] = new int[] {random.nextInt(dates), random.nextInt(ages)};
+            Check.due("line", x.line(told[i][0], told[i][1]), i + 1);
         }
-        bestMen = 99;
-        goThrough(new int[count], 0, 0);
+        firstOfFewest(told);
         Check.due("fewest", x.fewest(-1), bestMen);
         for (int i = 0; i < count; i++) {
             Check.due("man of " + i, x.fewest(i), best[i]);
@@ -39,6 +38,14 @@ public final class FewestOracleTest {
                 Check.due("canBeOne", x.canBeOne(i, k), i == k ? CaveYears.OUTSIDE : canBeOne(lines[i], lines[k]) ? 1 : 0);
             }
         }
+    }
+
+    /** The man of each line. */
+    static int[] firstOfFewest(int[][] told) {
+        lines = told;
+        bestMen = 99;
+        goThrough(new int[told.length], 0, 0);
+        return best;
     }
 
     /** The ways come in their order, so that one of as few men as the best is a later one. */

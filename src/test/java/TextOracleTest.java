@@ -65,7 +65,7 @@ public final class TextOracleTest {
     }
 
     /** What cave() and fault() answer. */
-    private static int[] read(String text) {
+    static int[] read(String text) {
         List<String> tokens = new ArrayList<>();
         List<Integer> places = new ArrayList<>();
         Matcher m = TOKEN.matcher(text);
